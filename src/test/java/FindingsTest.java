@@ -237,6 +237,12 @@ public final class FindingsTest {
         Check.due("two sheets: sight", x.spans(0, 1, 0), 5);
         Check.due("two sheets: joint", x.spans(0, 1, 1), 95);
         Check.due("two sheets: what differs", x.spans(0, 1, 2), 3);
+        RubberHall y = Check.hall(MAN + "person sight 10 joint 20 touch 100 leans 1000;sitting far 999;law odds two 1000;law odds;");
+        // 999 by 5 5 by (5 5 and 95 95) is 2.76, by 85 85 it is 3.4; who leans to one cause wholly is never pulled from it
+        y.tell(y.sheet(1, 0), 20, 2);
+        Check.due("sight of 2", y.spans(0, 1, 0), 95);
+        Check.due("joint of 2", y.spans(0, 1, 1), 5);
+        Check.due("what differs of 2", y.spans(0, 1, 2), 0);
         Check.none("spans of no law", () -> x.spans(3, 0, 0));
         Check.none("spans of no person", () -> x.spans(0, 2, 0));
         Check.none("spans of what 3", () -> x.spans(0, 0, 3));

@@ -84,6 +84,9 @@ public final class HeadTest {
     }
 
     private static void leaning() {
+        RubberHall y = Check.hall(ONE_MAN + "sitting far 0 strokes 3;law odds two 1000;");
+        Check.due("half is where it leans", y.one(0, 0, 0, 3), 500000);
+        Check.due("half is enough", y.held(0, 0, 0, 2), 0);
         RubberHall x = Check.hall("person sight 1 joint 1 touch 1 leans 0;person sight 1 joint 1 touch 1 leans 1000;"
             + "sitting far 999 turned strokes 600;law odds two 1 turn 0;");
         Check.due("no one of no lean", x.one(0, 0, 0, 600), 0);
@@ -184,6 +187,19 @@ public final class HeadTest {
         Check.due("where it falls", y.at(0, 0, far, 0) < 500000, true);
     }
 
+    private static void fallsAtTheEnd() {
+        // the weight by 172 is below 28 by 972 from 998.7 mm on; by 176 that is beyond 999
+        RubberHall x = Check.hall("person sight 99 joint 73 touch 1 leans 972;person sight 99 joint 77 touch 1 leans 972;"
+            + "sitting far 0;law odds two 1000;");
+        Check.due("falls at far 999", x.falls(0, 0, 0, 0), 999);
+        Check.due("would fall beyond", x.falls(0, 1, 0, 0), RubberHall.NONE);
+        // the weight by 999 is 201290 at 1990 ms, 199683 at 2000: with TWO 200, 60 strokes gain 1.47 times or lose to 0.91
+        RubberHall y = Check.hall("person sight 9 joint 9 touch 999 leans 145;person sight 9 joint 9 touch 999 leans 200;"
+            + "sitting far 0;law odds two 200;");
+        Check.due("falls at late 2000", y.falls(0, 0, 0, 1), 2000);
+        Check.due("would fall later", y.falls(0, 1, 0, 1), RubberHall.NONE);
+    }
+
     public static void main(String[] args) {
         weights();
         waysAndThings();
@@ -193,6 +209,7 @@ public final class HeadTest {
         foretold();
         at();
         falls();
+        fallsAtTheEnd();
         Check.end("HeadTest");
     }
 }

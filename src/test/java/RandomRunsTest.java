@@ -87,15 +87,19 @@ public final class RandomRunsTest {
         people = chance(3) ? 20 + random.nextInt(2) : chance(15) ? 5 + random.nextInt(8) : random.nextInt(20) == 0 ? 0
             : 1 + random.nextInt(4);
         for (int i = 0; i < people; i++) {
-            clauses.add(people > 4 ? "person sight " + some(1, 99) + " joint " + some(1, 99) + " touch 90 leans 400"
-                : "person sight " + some(1, 99) + " joint "
-                + some(1, 99) + " touch " + some(1, 999) + " leans " + some(0, 1000) + perhaps("yes", 0, 100)
-                + perhaps("wish", 0, 100));
+            if (people > 12) {
+                clauses.add("person sight" + some(1, 9) + "joint" + some(1, 9) + "touch1leans0");
+            } else if (people > 4) {
+                clauses.add("person sight " + some(1, 99) + " joint " + some(1, 99) + " touch 90 leans 400");
+            } else {
+                clauses.add("person sight " + some(1, 99) + " joint " + some(1, 99) + " touch " + some(1, 999) + " leans "
+                    + some(0, 1000) + perhaps("yes", 0, 100) + perhaps("wish", 0, 100));
+            }
         }
         sittings = chance(3) ? 20 + random.nextInt(2) : random.nextInt(20) == 0 ? 0 : 1 + random.nextInt(6);
         for (int i = 0; i < sittings; i++) {
             int far = chance(70) ? pick(FARS) : some(0, 999);
-            clauses.add("sitting far " + far + (sittings < 20 ? sittingTail() : ""));
+            clauses.add("sitting far" + (sittings < 20 ? " " + far + sittingTail() : "" + far));
         }
         int laws = chance(4) ? 6 + random.nextInt(2) : random.nextInt(20) == 0 ? 0 : 1 + random.nextInt(4);
         for (int i = 0; i < laws; i++) {

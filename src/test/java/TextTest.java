@@ -182,6 +182,8 @@ public final class TextTest {
         house("off cold;", 3, 4);
         house("off less;", 3, 4);
         house("off or;", 3, 4);
+        house("off z;", 3, 4);
+        house("off a;", 3, 4);
         house("off and 1;", 3, 4);
         house("off 1 or and 1;", 3, 9);
         house("off 1 + not 1;", 3, 8);
