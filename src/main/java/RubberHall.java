@@ -667,12 +667,13 @@ public final class RubberHall {
         return many;
     }
 
+    /** Whether the first is of a TOLD SITTING, the other of a like one that isn't, and both count of one PERSON. */
     private boolean isWishedCouple(int sheet, int other) {
         int imagined = sheets.get(sheet, WHERE);
         int real = sheets.get(other, WHERE);
-        return imagined != real && sieve.counts(sheet) && sieve.counts(other)
+        return sieve.counts(sheet) && sieve.counts(other)
                 && sheets.get(sheet, WHO) == sheets.get(other, WHO)
-                && house.told(SITTINGS, imagined, TOLD) == 1
+                && house.told(SITTINGS, imagined, TOLD) == 1 && house.told(SITTINGS, real, TOLD) == 0
                 && isLike(imagined, real, FAR) && isLike(imagined, real, LATE)
                 && isLike(imagined, real, WAY) && isLike(imagined, real, THING);
     }

@@ -130,6 +130,16 @@ public final class FindingsTest {
         Check.none("wished(-1)", () -> x.wished(-1));
     }
 
+    private static void wishedOfTwoTold() {
+        RubberHall x = Check.hall(MAN + "sitting far 9 told;sitting far 9 told strokes 1;sitting far 9;line felt;");
+        Check.sheets(x, "sheet 0 0 5;sheet 0 1 5;");
+        Check.due("two told ones are no couple", x.wished(0), 0);
+        Check.due("nor as great or greater", x.wished(1), 0);
+        Check.sheets(x, "sheet 0 2 5;sheet 0 2 6;sheet 0 0 6;");
+        Check.due("each told one with each that isn't", x.wished(0), 6);
+        Check.due("those as great or greater", x.wished(1), 4);
+    }
+
     private static void slopes() {
         RubberHall x = Check.hall(MAN + "sitting far 30 late 100;sitting far 60 late 100;sitting far 90 late 2000;off shown=900;");
         Check.illegal("slope of none", () -> x.slope(0));
@@ -274,6 +284,7 @@ public final class FindingsTest {
         beside();
         besideMany();
         wished();
+        wishedOfTwoTold();
         slopes();
         shares();
         parts();

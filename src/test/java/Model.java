@@ -838,7 +838,7 @@ public final class Model {
             for (Sheet b : counting()) {
                 Sitting s = house.sittings.get(a.sitting);
                 Sitting t = house.sittings.get(b.sitting);
-                boolean couple = s.told == 1 && a.sitting != b.sitting && a.person == b.person && s.far == t.far
+                boolean couple = s.told == 1 && t.told == 0 && a.person == b.person && s.far == t.far
                         && s.late == t.late && s.way == t.way && s.thing == t.thing;
                 n += couple && (what == 0 || felt(a) >= felt(b)) ? 1 : 0;
             }
