@@ -1,19 +1,52 @@
 import java.nio.charset.StandardCharsets;
 import java.util.Arrays;
+import java.util.LinkedHashSet;
+import java.util.Set;
 
 /** What the tests share: answers that are due, exceptions that are due, and texts on the tape. */
 final class Check {
+    private static final Set<String> EDGES = new LinkedHashSet<>();
     private static int done = 0;
     private static int wrong = 0;
+    private static String now = "";
 
     private Check() {
+    }
+
+    /** A test of its own of one case that the document names; its name begins with the promise or the Term. */
+    static void edge(String name, Runnable test) {
+        now = name + ": ";
+        int before = done;
+        due("no other test has this name", EDGES.add(name), true);
+        try {
+            test.run();
+        } catch (RuntimeException e) {
+            fails("threw " + e);
+        }
+        due("something is asked", done > before + 1, true);
+        now = "";
+    }
+
+    static Set<String> edges() {
+        return EDGES;
+    }
+
+    private static void fails(String how) {
+        wrong++;
+        System.out.println(now + how);
     }
 
     static void due(String call, long got, long want) {
         done++;
         if (got != want) {
-            wrong++;
-            System.out.println(call + " answered " + got + ", due is " + want);
+            fails(call + " answered " + got + ", due is " + want);
+        }
+    }
+
+    static void same(String call, String got, String want) {
+        done++;
+        if (!got.equals(want)) {
+            fails(call + " answered " + got + ", due is " + want);
         }
     }
 
@@ -33,14 +66,13 @@ final class Check {
         done++;
         try {
             run.run();
-            wrong++;
-            System.out.println(call + " threw nothing, due is " + due.getName());
         } catch (RuntimeException e) {
             if (e.getClass() != due) {
-                wrong++;
-                System.out.println(call + " threw " + e + ", due is " + due.getName());
+                fails(call + " threw " + e + ", due is " + due.getName());
             }
+            return;
         }
+        fails(call + " threw nothing, due is " + due.getName());
     }
 
     static int feed(RubberHall x, byte[] text) {
@@ -80,7 +112,8 @@ final class Check {
     }
 
     static void end(String test) {
-        System.out.println(test + ": " + done + " answers, " + wrong + " not as due");
+        String edges = EDGES.isEmpty() ? "" : EDGES.size() + " cases, ";
+        System.out.println(test + ": " + edges + done + " answers, " + wrong + " not as due");
         if (wrong != 0 || done == 0) {
             System.exit(1);
         }
