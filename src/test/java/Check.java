@@ -18,6 +18,9 @@ final class Check {
         now = name + ": ";
         int before = done;
         due("no other test has this name", EDGES.add(name), true);
+        if (System.getProperty("names") != null) {
+            System.out.println(name);
+        }
         try {
             test.run();
         } catch (RuntimeException e) {

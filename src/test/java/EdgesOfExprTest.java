@@ -254,7 +254,13 @@ public final class EdgesOfExprTest {
             Refusal.house("off (((((1)+((2))))));", 2, 14);
             Check.hall("off (((((1)+(2)))));");
         });
-        Check.edge("Term FAULTS: of each RULE anew", () -> Check.hall("off (((((1)))));off (((((2)))));"));
+        Check.edge("Term FAULTS: of each RULE anew, behind a FAULT in an EXPR, too", () -> {
+            RubberHall x = Check.hall("off (((((1)))));off (((((2)))));");
+            Check.due("within 5", Check.house(x, "off (((((1"), 1);
+            Check.due("within none", Check.house(x, "off (((((1)))));"), 0);
+            Check.due("behind six 'not'", Check.house(x, "off not not not not not not;"), 1);
+            Check.due("behind none", Check.house(x, "off not not not not not not 1;"), 0);
+        });
     }
 
     private static void nots() {
@@ -337,6 +343,9 @@ public final class EdgesOfExprTest {
                 value(far, "", sheet, values[i], 0);
             }
             value("sitting far 0;".repeat(19) + most, "", "sheet 0 19;", "far", 999);
+            value("sitting far 0 turned top;", "", sheet, "way", 1);
+            value("sitting far 0 turned top;", "", sheet, "thing", 2);
+            value("sitting far 0 aside stick;", "", sheet, "thing", 1);
         });
         Check.edge("Term VALUES: 'who', the number of its PERSON, from 0 to 19", () -> {
             value(far, "", sheet, "who", 0);

@@ -40,8 +40,16 @@ public final class EdgesOfFindingsTest {
                 }
             }
         });
-        Check.edge("Term CREDIT: SHEETS that are OFF change nothing", () -> credit(
-            MAN + "sitting far0;law spans;law wish;line said;", "sheet 0 0 6 start 100;sheet 0 0 1 shown 900;", 500000, 500000));
+        Check.edge("Term CREDIT: of 6 LAWS behind a SHEET", () -> {
+            // SHOWN is 3 beside 0 by SPREADS 1 to 6: FITs 100000, 307000, 500000, 640000, 735000, 800000
+            StringBuilder laws = new StringBuilder();
+            for (int i = 1; i <= 6; i++) {
+                laws.append("law spans spread ").append(i).append(';');
+            }
+            credit(MAN + "sitting far0;" + laws, "sheet 0 0 shown 3 start 100;", 32446, 99610, 162232, 207657, 238481, 259571);
+        });
+        Check.edge("Term CREDIT: SHEETS that are OFF change nothing", () -> credit(MAN
+            + "sitting far0;law spans;law wish;line said;", "sheet 0 0 6 start 100;sheet 0 0 1 shown 900;", 500000, 500000));
         Check.edge("Term CREDIT: of one LAW 1,000,000 behind any SHEETS", () -> credit(
             MAN + "sitting far0;law spans;", "sheet 0 0 start 0;".repeat(30), 1000000));
         Check.edge("Term CREDIT: of like LAWS in millionths of all together, cut down", () -> {
@@ -58,6 +66,15 @@ public final class EdgesOfFindingsTest {
             String one = MAN + "sitting far40;law spans;";
             credit(one + "law spans spread 1;", "sheet 0 0 shown 30 start 100;", 988875, 11124);
             credit(one + "law spans spread 99;", "sheet 0 0 shown 30 start 100;", 447177, 552822);
+        });
+        Check.edge("Term FIT: by what is FORETOLD of the SHEET's own PERSON and SITTING", () -> {
+            // by SPANS 0, 20 of the first, 0, 39 of the second PERSON, by WISH 0, 20 and 0, 0; START 100 beside 50 and 0
+            String unlike = "person sight1joint1touch1leans0wish 50;person sight1joint99touch1leans0;"
+                + "sitting far0;sitting far40;law spans;law wish;";
+            credit(unlike, "sheet 0 1 shown 20 start 75;", 500000, 500000);
+            credit(unlike, "sheet 1 1 shown 20 start 50;", 512195, 487804);
+            credit(unlike, "sheet 1 1 shown 39 start 50;", 827814, 172185);
+            credit(unlike, "sheet 1 0 shown 39 start 50;", 500000, 500000);
         });
         Check.edge("Term FIT: by what START and FORETOLD differ by 10", () -> {
             // SPANS FORETELL 100, WISH 0
@@ -134,10 +151,16 @@ public final class EdgesOfFindingsTest {
             fails(hall(house, "sheet 0 0 shown 0;sheet 0 0 shown 1;"), 0, 20 + 19, 0, 0, 0);
             fails(hall(house, "sheet 0 0 shown 0;sheet 1 0 shown 1;"), 1, 1, 0, 0, 0);
         });
+        Check.edge("Term SPANS FORETELL: of the second SITTING, whatever START and SLOW", () -> {
+            fails(hall(house, "sheet 0 1 shown 1;sheet 1 1 shown 0 start 7 slow 9;"), 0, 498 + 199, 1, 0, 0);
+            fails(hall(house, "sheet 0 1 shown 1 start 7 slow 9;sheet 1 1 shown 2;"), 0, 498 + 197, 0, 1, 0);
+        });
         Check.edge("Term SPANS FORETELL: not of two SITTINGS", () -> fails(hall(house, "sheet 0 0 shown 1;sheet 0 1 shown 0;"),
             0, 19 + 499, 0, 0, 0));
-        Check.edge("Term SPANS FORETELL: not of SHEETS that are OFF", () -> fails(hall(house,
-            "sheet 0 0 shown 1;sheet 1 0 shown 900;"), 0, 19, 0, 0, 0));
+        Check.edge("Term SPANS FORETELL: not of SHEETS that are OFF", () -> {
+            fails(hall(house, "sheet 0 0 shown 1;sheet 1 0 shown 900;"), 0, 19, 0, 0, 0);
+            fails(hall(house, "sheet 0 0 shown 900;sheet 1 0 shown 1;"), 0, 7, 0, 0, 0);
+        });
         Check.edge("Term SPANS FORETELL: each couple once, of 60 SHEETS", () -> {
             RubberHall x = Check.hall(house);
             for (int i = 0; i < 60; i++) {
@@ -317,7 +340,11 @@ public final class EdgesOfFindingsTest {
         });
         Check.edge("Term WISHED: STROKES may be unlike", () -> wished("sitting far 9 told strokes 1;sitting far 9 strokes 600;",
             one, 1, 1));
-        Check.edge("Term WISHED: of one PERSON", () -> wished(two, "sheet 0 0 3;sheet 1 1 3;", 0, 0));
+        Check.edge("Term WISHED: of one PERSON, the first or another", () -> {
+            wished(two, "sheet 0 0 3;sheet 1 1 3;", 0, 0);
+            wished(two, "sheet 1 0 3;sheet 0 1 3;", 0, 0);
+            wished(two, "sheet 1 0 3 shown 7 start 8 slow 9;sheet 1 1 3;", 1, 1);
+        });
         Check.edge("Term WISHED: of two TOLD SITTINGS, of two that aren't, of one no couple", () -> {
             wished("sitting far 9 told;sitting far 9 told;", one, 0, 0);
             wished("sitting far 9;sitting far 9;", one, 0, 0);
@@ -384,7 +411,8 @@ public final class EdgesOfFindingsTest {
             slope(far, "sheet 0 0 shown less 999;sheet 0 2 shown 999;", 0, 2000);
             slope(far, "sheet 0 0 shown 999;sheet 0 2 shown less 999;", 0, -2000);
             slope("sitting far 0;sitting far 1;", "sheet 0 0 shown less 999;sheet 0 1 shown 999;", 0, 1998000);
-            slope("sitting far 0 late 1999;sitting far 0 late 2000;", "sheet 0 0 shown 999;sheet 0 1 shown less 999;", 1, -1998000);
+            slope("sitting far 0 late 1999;sitting far 0 late 2000;", "sheet 0 0 shown 999;sheet 0 1 shown less 999;", 1,
+                -1998000);
         });
         Check.edge("Term SLOPE: of 60 SHEETS, the most", () -> {
             RubberHall x = Check.hall(MAN + "sitting far 998;sitting far 999;");
@@ -459,6 +487,23 @@ public final class EdgesOfFindingsTest {
             parts("person sight1joint1touch1leans0wish 60;law wish;law odds;law spans;", 100);
             parts("person sight1joint1touch1leans0wish 20;law wish;law odds;law spans;", 199);
             parts(MAN + "law spans;law spans;law wish;law wish;law spans;law wish;", 0);
+        });
+        Check.edge("Term PARTS: over PEOPLE that are unlike, each by itself", () -> {
+            // by SPANS 499, 998, 0; by WISH 999, 0, 99; by ODDS of LEANS 0, 1000, 0 0, 998, 0
+            String people = "person sight1joint1touch1leans0wish 100;person sight1joint99touch1leans1000;"
+                + "person sight99joint1touch1leans0wish 10;";
+            parts(people + "law spans;law wish;", 500 + 998 + 99);
+            parts(people + "law wish;law odds;", 999 + 998 + 99);
+            parts(people + "law wish;law spans;law odds;", 499);
+            parts(people + "law odds;law wish;law spans;law wish;law odds;law spans;", 0);
+        });
+        Check.edge("Term PARTS: over 20 PEOPLE, by 5 LAWS", () -> {
+            String people = MAN.repeat(19) + "person sight1joint3touch1leans0;";
+            RubberHall x = Check.hall(people + "sitting far9;law wish;law spans;");
+            // by SPANS 4 of each and 8 of the last
+            Check.due("parts(0) by 2 LAWS", x.parts(0), 19 * 4 + 8);
+            RubberHall y = Check.hall(people + "law wish;law wish;law wish;law wish;sitting far9;");
+            Check.due("parts(0) by 4 LAWS", y.parts(0), 0);
         });
         Check.edge("Term PARTS: of SHOWN, whatever SHEETS there are", () -> {
             RubberHall x = Check.hall(MAN + "law spans;law wish;sitting far 999;off 1;");

@@ -364,9 +364,11 @@ public final class EdgesOfHeadTest {
                 + "sitting far 0;sitting far 999;sitting far 0 late 2000;sitting far 999 late 2000;");
             int[][] ends = {{0, 0}, {999, 0}, {0, 2000}, {999, 2000}};
             for (int i = 0; i < 4; i++) {
-                Check.due("at(0, 0, " + ends[i][0] + ", " + ends[i][1] + ")", x.at(0, 0, ends[i][0], ends[i][1]), x.one(0, 0, i, 60));
-                Check.due("by SPANS", x.at(1, 0, ends[i][0], ends[i][1]), 1000000);
-                Check.due("by WISH", x.at(2, 0, ends[i][0], ends[i][1]), 0);
+                int far = ends[i][0];
+                int late = ends[i][1];
+                Check.due("at(0, 0, " + far + ", " + late + ")", x.at(0, 0, far, late), x.one(0, 0, i, 60));
+                Check.due("by SPANS", x.at(1, 0, far, late), 1000000);
+                Check.due("by WISH", x.at(2, 0, far, late), 0);
             }
         });
         Check.edge("Term HELD AT: of 60 STROKES, not 59 or 61", () -> {
@@ -377,10 +379,13 @@ public final class EdgesOfHeadTest {
             Check.due("60 isn't 61", x.one(0, 0, 0, 61) == x.one(0, 0, 0, 60), false);
         });
         Check.edge("Term HELD AT: right way round, a hand, not TOLD, whatever SITTINGS there are", () -> {
-            RubberHall x = Check.hall("person sight 10 joint 20 touch 100 leans 500;law odds two 1000 turn 0 shape 0;"
-                + "sitting far 30 late 5 turned stick told strokes 1;");
-            x.held(0, 0, 0, 0);
-            Check.due("at(0, 0, 30, 0)", x.at(0, 0, 30, 0), 333333);
+            RubberHall x = Check.hall("person sight 10 joint 20 touch 100 leans 500;law odds two 999 turn 0 shape 0;"
+                + "sitting far 30 late 5 turned stick told strokes 1;sitting far 30;sitting far 30 aside top told;");
+            int due = x.one(0, 0, 1, 60);
+            for (int i = 0; i < 3; i++) {
+                x.held(0, 0, i, 0);
+                Check.due("at(0, 0, 30, 0) behind SITTING " + i, x.at(0, 0, 30, 0), due);
+            }
         });
         Check.edge("Term HELD AT: without any SITTING", () -> {
             RubberHall x = Check.hall("person sight 10 joint 20 touch 100 leans 500;law odds two 1000;");
@@ -402,8 +407,11 @@ public final class EdgesOfHeadTest {
         });
         // the WEIGHT by 172 is below 28 by 972 from 998.7 mm on; by 176 that is beyond 999
         Check.edge("Term FALLS: by FAR at 999", () -> falls("sight 99 joint 73 touch 1 leans 972", "odds two 1000", 0, 0, 999));
-        Check.edge("Term FALLS: by FAR beyond 999 it doesn't",
-            () -> falls("sight 99 joint 77 touch 1 leans 972", "odds two 1000", 0, 0, NEVER));
+        Check.edge("Term FALLS: by FAR beyond 999 it doesn't", () -> {
+            falls("sight 99 joint 77 touch 1 leans 972", "odds two 1000", 0, 0, NEVER);
+            // ONE is 500477 at 999, 499995 were it at 1000
+            falls("sight 99 joint 92 touch 1 leans 966", "odds two 1000", 0, 0, NEVER);
+        });
         Check.edge("Term FALLS: by LATE at 0", () -> falls("sight 1 joint 1 touch 1 leans 499", "odds two 1000", 0, 1, 0));
         Check.edge("Term FALLS: by LATE each ten, 10 the next", () -> {
             falls("sight 1 joint 1 touch 999 leans 500", "odds two 1000", 0, 1, 10);

@@ -36,6 +36,54 @@ public final class EdgesOfHouseTest {
                 Check.due("count(" + what + ")", x.count(what), due[what]);
             }
         });
+        Check.edge("Term HOUSE: 20 PEOPLE and 4 SITTINGS, each tells its own", () -> {
+            StringBuilder text = new StringBuilder();
+            for (int i = 0; i < 4; i++) {
+                text.append("sitting far").append(i).append(";");
+            }
+            for (int i = 0; i < 20; i++) {
+                text.append("person sight").append(i % 7 + 1).append("joint").append(i % 8 + 1).append("touch").append(i % 9 + 1)
+                    .append("leans").append(i % 5).append(';');
+            }
+            RubberHall x = Check.hall(text.toString());
+            for (int i = 0; i < 20; i++) {
+                int[] due = {i % 7 + 1, i % 8 + 1, i % 9 + 1, i % 5, 0, 0};
+                for (int what = 0; what < 6; what++) {
+                    Check.due("person(" + i + ", " + what + ")", x.person(i, what), due[what]);
+                }
+            }
+            int[] due = {0, 0, 0, 0, 0, 60};
+            for (int i = 0; i < 4; i++) {
+                for (int what = 0; what < 6; what++) {
+                    Check.due("sitting(" + i + ", " + what + ")", x.sitting(i, what), what == 0 ? i : due[what]);
+                }
+            }
+        });
+        Check.edge("Term HOUSE: 20 SITTINGS, 6 LAWS, 12 LINES, 4 RULES, each tells its own", () -> {
+            StringBuilder text = new StringBuilder("line said;" + "line felt;line said;".repeat(5) + "line felt;");
+            for (int i = 0; i < 20; i++) {
+                text.append("sitting far").append(i % 9).append(";");
+            }
+            for (int i = 0; i < 6; i++) {
+                text.append("law odds two").append(i + 1).append("shape").append(i + 2).append(';');
+            }
+            RubberHall x = Check.hall(text + "off 0;off 0;off 0;off 1;" + PERSON);
+            for (int i = 0; i < 20; i++) {
+                Check.due("FAR of " + i, x.sitting(i, 0), i % 9);
+                Check.due("STROKES of " + i, x.sitting(i, 5), 60);
+            }
+            for (int i = 0; i < 6; i++) {
+                int[] due = {1, i + 1, 20, 100, i + 2};
+                for (int what = 0; what < 5; what++) {
+                    Check.due("law(" + i + ", " + what + ")", x.law(i, what), due[what]);
+                }
+            }
+            for (int i = 0; i < 12; i++) {
+                Check.due("isSaid(" + i + ")", x.isSaid(i), i % 2 == 0);
+            }
+            x.sheet(0, 19);
+            Check.due("the RULE that holds", x.value(0, 34), 3);
+        });
         Check.edge("Term PEOPLE: numbered from 0 on", () -> {
             RubberHall x = Check.hall(PERSON.repeat(19) + "person sight9joint8touch7leans6;");
             Check.due("the last's SIGHT", x.person(19, 0), 9);
@@ -157,8 +205,9 @@ public final class EdgesOfHouseTest {
 
     private static void without() {
         Check.edge("Term HOUSE: without yes and wish, these are 0", () -> {
-            RubberHall x = Check.hall("person sight 9 joint 9 touch 9 leans 9 yes 8 wish 7;person sight 9 joint 9 touch 9 leans 9;"
-                + "person sight 9 joint 9 touch 9 leans 9 yes 6;person sight 9 joint 9 touch 9 leans 9 wish 5;");
+            RubberHall x = Check.hall("person sight 9 joint 9 touch 9 leans 9 yes 8 wish 7;"
+                + "person sight 9 joint 9 touch 9 leans 9;person sight 9 joint 9 touch 9 leans 9 yes 6;"
+                + "person sight 9 joint 9 touch 9 leans 9 wish 5;");
             int[][] due = {{8, 7}, {0, 0}, {6, 0}, {0, 5}};
             for (int i = 0; i < 4; i++) {
                 Check.due("YES of " + i, x.person(i, 4), due[i][0]);
@@ -166,7 +215,8 @@ public final class EdgesOfHouseTest {
             }
         });
         Check.edge("Term HOUSE: without late LATE is 0, without strokes there are 60", () -> {
-            RubberHall x = Check.hall("sitting far 9 late 8 strokes 7;sitting far 9;sitting far 9 late 6;sitting far 9 strokes 5;");
+            RubberHall x = Check.hall("sitting far 9 late 8 strokes 7;sitting far 9;sitting far 9 late 6;"
+                + "sitting far 9 strokes 5;");
             int[][] due = {{8, 7}, {0, 60}, {6, 60}, {0, 5}};
             for (int i = 0; i < 4; i++) {
                 Check.due("LATE of " + i, x.sitting(i, 1), due[i][0]);

@@ -107,6 +107,24 @@ public final class EdgesOfLookingTest {
             best(shown(100, 10, 10, 3), 0, 0, 15, 5, 7);
             best(shown(100, 3, 3, 10), 0, 0, 25, 5, 7);
         });
+        Check.edge("Term SPANS BEST: by the PERSON's own LEANS and TOUCH", () -> {
+            RubberHall x = Check.hall("person sight 1 joint 1 touch 100 leans 1000;person sight 1 joint 1 touch 100 leans 0;"
+                + "person sight 1 joint 1 touch 100 leans 500;person sight 1 joint 1 touch 900 leans 500;"
+                + "sitting far 100;sitting far 100 late 500 strokes 2;law odds;");
+            Check.sheets(x, "sheet 0 0 shown 90;sheet 1 0 shown 90;sheet 2 1 shown 40;sheet 3 1 shown 40;");
+            best(x, 0, 0, 5, 15, 0);
+            best(x, 0, 1, 5, 5, 90);
+            best(x, 0, 2, 5, 75, 38);
+            best(x, 0, 3, 5, 15, 0);
+        });
+        Check.edge("Term SPANS BEST: by the PERSON's own WISH, by LAW WISH", () -> {
+            RubberHall x = Check.hall("person sight 1 joint 1 touch 1 leans 0 wish 40;"
+                + "person sight 1 joint 1 touch 1 leans 0 wish 70;sitting far 100;law wish;");
+            Check.sheets(x, "sheet 0 0 shown 50;sheet 1 0 shown 50;");
+            best(x, 0, 0, 5, 5, 10);
+            best(x, 0, 1, 5, 5, 20);
+            best(x, 0, 0, 5, 5, 10);
+        });
         Check.edge("Term SPANS BEST: the PERSON's own spans stay", () -> {
             RubberHall x = shown(100, 90);
             best(x, 0, 0, 5, 15, 0);

@@ -1,5 +1,6 @@
 import java.nio.file.Files;
 import java.nio.file.Path;
+import java.util.Arrays;
 
 /**
  * Promises 1 to 34: the last that is within and the first that is beyond, on either side, and that a refused call
@@ -135,6 +136,31 @@ public final class EdgesOfPromisesTest {
         });
     }
 
+    /** What the calls answer that ask the tables, and SHEETS made by them; then some are DRAWN. */
+    private static String asked(RubberHall x) {
+        StringBuilder s = new StringBuilder(Refusal.seen(x));
+        for (int law = 0; law < Refusal.LAWS; law++) {
+            for (int what = 0; what < 4; what++) {
+                s.append(' ').append(x.fails(law, what));
+            }
+            for (int what : new int[] {0, 1, 20, 21, 22}) {
+                s.append(' ').append(x.foretold(law, 1, 1, what));
+            }
+            for (int what = 0; what < 3; what++) {
+                s.append(' ').append(x.held(law, 0, 1, what)).append(' ').append(x.spans(law, 1, what));
+            }
+            s.append(' ').append(x.credit(law)).append(' ').append(x.one(law, 1, 1, 3)).append(' ').append(x.at(law, 1, 9, 50));
+            s.append(' ').append(x.falls(law, 1, 1, 0)).append(' ').append(x.falls(law, 1, 1, 1));
+        }
+        x.sheet(0, 2);
+        x.sheet(1, 1);
+        x.tell(Refusal.SHEETS, 23, -9);
+        int[] found = {x.apart(0), x.apart(2), x.beside(0, 2, 1, 0), x.beside(2, 0, 1, 1), x.wished(0), x.wished(1), x.slope(0),
+            x.share(0), x.share(3), x.parts(1), x.next(), x.cold(0), x.cold(2), x.cold(3), x.drawn(3, 5)};
+        s.append(Arrays.toString(found)).append(Refusal.seen(x));
+        return s.toString();
+    }
+
     private static void houses() {
         String p = "Promise 3 house: ";
         illegal(p + "the tape of 20 has not so many", new int[] {21, 22, 700, 701, MAX}, (x, n) -> x.house(n));
@@ -181,6 +207,27 @@ public final class EdgesOfPromisesTest {
             Refusal.house("line felt;sitting far 1000;", 2, 22);
             Refusal.house("line felt;off foo;", 3, 14);
         });
+        Check.edge(p + "an EXPR is read anew behind ten that had a FAULT within 5 others and behind 6 'not'", () -> {
+            RubberHall x = new RubberHall();
+            for (int i = 0; i < 10; i++) {
+                Check.due("FAULT", Check.house(x, "off " + "not not not not not not(".repeat(5)), 1);
+            }
+            Check.due("the seventh 'not'", Check.house(x, "off not not not not not not not 1;"), 2);
+            Check.due("one 'not'", Check.house(x, "off not 1;"), 0);
+            Check.due("house", Check.house(x, MAN + "sitting far1;off 1 and not(1<2);off not(1<2 and not 2<3)and 1;"), 0);
+            x.sheet(0, 0);
+            Check.due("RULE", x.value(0, 34), 1);
+        });
+        Check.edge(p + "behind a TEXT with a FAULT every call answers as before", () -> {
+            String before = asked(Refusal.hall());
+            for (String text : new String[] {"x", MAN.repeat(9) + "sitting far9 told;".repeat(9) + "law wish;".repeat(6)
+                + "line said;".repeat(9) + "off 1;x"}) {
+                RubberHall x = Refusal.hall();
+                Check.due("house of " + text, Check.house(x, text), 1);
+                Check.illegal("strokes of a SITTING of 4 behind " + text, () -> x.one(0, 1, 1, 5));
+                Check.same("every call behind " + text, asked(x), before);
+            }
+        });
         Check.edge(p + "SHEETS and the image are gone, STATUS stays", () -> {
             RubberHall x = Refusal.hall();
             Check.due("house", Check.house(x, MAN + "sitting far1;line felt;"), 0);
@@ -203,15 +250,27 @@ public final class EdgesOfPromisesTest {
             Check.due("KIND", x.law(0, 0), 0);
         });
         Check.edge(p + "RULES of the HOUSE that was take nothing off", () -> {
-            RubberHall x = Check.hall(MAN + "sitting far1;off 0;off 1;");
-            x.sheet(0, 0);
-            Check.due("RULE", x.value(0, 34), 1);
-            Check.house(x, MAN + "sitting far1;off 0;");
-            x.sheet(0, 0);
-            Check.due("RULE", x.value(0, 34), NONE);
-            Check.house(x, MAN + "sitting far1;");
-            x.sheet(0, 0);
-            Check.due("RULE", x.value(0, 34), NONE);
+            RubberHall x = new RubberHall();
+            String[] rules = {"off 0;off 1;", "off 0;", "off 1;", "off 0;", "", "off not 1;", "off 1;", "off 0 and 0 or 0+1;",
+                "off 0;"};
+            int[] due = {1, NONE, 0, NONE, NONE, NONE, 0, 0, NONE};
+            for (int i = 0; i < rules.length; i++) {
+                Check.house(x, MAN + "sitting far1;" + rules[i]);
+                x.sheet(0, 0);
+                Check.due("RULE of " + rules[i], x.value(0, 34), due[i]);
+            }
+        });
+        Check.edge(p + "nothing of an EXPR with a FAULT is in one that comes later", () -> {
+            RubberHall x = new RubberHall();
+            String[] faults = {"off not;", "off 0 and;", "off 1 or;", "off (not (1 and;", "off 5-", "off 1;off 0*"};
+            for (String fault : faults) {
+                Check.due("house of " + fault, Check.house(x, fault), 1);
+                for (int i = 0; i < 2; i++) {
+                    Check.house(x, MAN + "sitting far1;off " + i + ";");
+                    x.sheet(0, 0);
+                    Check.due("RULE of off " + i + " behind " + fault, x.value(0, 34), i == 1 ? 0 : NONE);
+                }
+            }
         });
     }
 
@@ -290,7 +349,7 @@ public final class EdgesOfPromisesTest {
         Check.edge("Promise 6 count: each what from 0 to 10", () -> {
             RubberHall x = Refusal.hall();
             x.feed(0, 0, 0, 0, 0);
-            int[] due = {2, 3, 2, 2, 1, 3, 2, 20, 1, 1, 0};
+            int[] due = {2, 3, 4, 2, 1, 3, 2, 20, 1, 1, 0};
             for (int what = 0; what <= 10; what++) {
                 Check.due("count(" + what + ")", x.count(what), due[what]);
             }
@@ -320,11 +379,12 @@ public final class EdgesOfPromisesTest {
             }
         });
         Check.edge("Promise 9 law: the first and the last, each what from 0 to 4", () -> {
-            int[][] due = {{1, 1000, 20, 100, 300}, {2, 300, 20, 100, 300}};
+            int[][] due = {{1, 1000, 20, 100, 300}, {2, 300, 20, 100, 300}, {0, 300, 20, 100, 300}, {1, 300, 9, 100, 300}};
             RubberHall x = Refusal.hall();
             for (int what = 0; what <= 4; what++) {
-                Check.due("law(0, " + what + ")", x.law(0, what), due[0][what]);
-                Check.due("law(1, " + what + ")", x.law(1, what), due[1][what]);
+                for (int i = 0; i < 4; i++) {
+                    Check.due("law(" + i + ", " + what + ")", x.law(i, what), due[i][what]);
+                }
             }
         });
         Check.edge("Promise 10 isSaid: the first and the last", () -> {
@@ -371,6 +431,21 @@ public final class EdgesOfPromisesTest {
             int[] due = {333333, 7, NONE};
             for (int what = 0; what <= 2; what++) {
                 Check.due("held(0, 0, 0, " + what + ")", x.held(0, 0, 0, what), due[what]);
+            }
+        });
+        Check.edge("Promise 13 held: of each LAW, PERSON and SITTING by its own numbers", () -> {
+            RubberHall x = Check.hall("person sight 10 joint 20 touch 1 leans 500 wish 40;"
+                + "person sight 20 joint 10 touch 1 leans 1000 wish 60;sitting far 0 strokes 0;sitting far 100 strokes 0;"
+                + "law wish;law spans;law odds two 1000;");
+            int[][] shown = {{0, 40}, {0, 60}, {0, 80}, {0, 20}, {0, 6}, {0, 20}};
+            int[][] held = {{400000, 400000}, {600000, 600000}, {1000000, 1000000}, {1000000, 1000000}, {500000, 76270},
+                {1000000, 1000000}};
+            int[][] comes = {{0, NONE}, {0, 0}, {0, NONE}, {0, 0}, {0, NONE}, {0, 0}};
+            for (int i = 0; i < 12; i++) {
+                String call = "held(" + i / 4 + ", " + i / 2 % 2 + ", " + i % 2 + ", ";
+                Check.due(call + "0)", x.held(i / 4, i / 2 % 2, i % 2, 0), held[i / 2][i % 2]);
+                Check.due(call + "1)", x.held(i / 4, i / 2 % 2, i % 2, 1), shown[i / 2][i % 2]);
+                Check.due(call + "2)", x.held(i / 4, i / 2 % 2, i % 2, 2), comes[i / 2][i % 2]);
             }
         });
         none("Promise 14 foretold: no such LAW", NO_LAW, (x, n) -> x.foretold(n, 0, 0, 20));
@@ -450,6 +525,18 @@ public final class EdgesOfPromisesTest {
         telling("SLOW", 22, 0, 601);
         telling("COLD", 23, -50, 50);
         Refusal.answers("Promise 16 tell: COLD 100 isn't not looked for", 0, 2, x -> x.tell(1, 23, 100) ? 1 : 0);
+        Check.edge("Promise 16 tell: answers from -3 to 3 to each of 12 LINES", () -> {
+            RubberHall x = Check.hall(MAN + "sitting far1;" + "line felt;line said;".repeat(6));
+            x.sheet(0, 0);
+            for (int line = 0; line < 12; line++) {
+                for (int value : new int[] {-4, -3, 4, 3}) {
+                    boolean within = value >= -3 && value <= 3;
+                    Check.due("tell(0, " + line + ", " + value + ")", x.tell(0, line, value), within);
+                    Check.due("value(0, " + line + ")", x.value(0, line), within ? value : value < 0 ? 0 : -3);
+                }
+            }
+            Check.due("STATUS 1", x.count(9), 24);
+        });
         Check.edge("Promise 16 tell: of the last SHEET, of the 12th LINE", () -> {
             RubberHall x = Check.hall(MAN + "sitting far1;" + "line felt;".repeat(12));
             for (int i = 0; i < 60; i++) {
@@ -499,7 +586,7 @@ public final class EdgesOfPromisesTest {
     private static void drawings() {
         none("Promise 18 drawn: no such LAW", NO_LAW, (x, n) -> x.drawn(n, 5));
         Check.edge("Promise 18 drawn: how many, by the first and the last LAW, the least and the most seed", () -> {
-            for (int law = 0; law < 2; law++) {
+            for (int law = 0; law < Refusal.LAWS; law++) {
                 for (int seed : new int[] {MIN, -1, 0, MAX}) {
                     RubberHall x = Refusal.hall();
                     Check.due("drawn", x.drawn(law, seed), 6);
@@ -556,7 +643,8 @@ public final class EdgesOfPromisesTest {
         });
         Check.edge("Promise 21 apart: each what from 0 to 2", () -> {
             RubberHall x = Check.hall(MAN + "sitting far40;line felt;");
-            Check.sheets(x, "sheet 0 0 3 shown 5;sheet 0 0 2 shown 4;sheet 0 0 1 shown 4;sheet 0 0 0 shown 6;sheet 0 0 3 shown 9;");
+            Check.sheets(x, "sheet 0 0 3 shown 5;sheet 0 0 2 shown 4;sheet 0 0 1 shown 4;"
+                + "sheet 0 0 0 shown 6;sheet 0 0 3 shown 9;");
             // 0-1, 0-2 the same way; 0-3 the other; 0-4 like 'felt'; 1-2 like SHOWN; 1-3, 2-3 the other; 1-4, 2-4, 3-4 the same
             int[] due = {5, 3, 2};
             for (int what = 0; what <= 2; what++) {
@@ -565,7 +653,8 @@ public final class EdgesOfPromisesTest {
         });
         Check.edge("Promise 22 beside: each number from 0 to 3, each what from 0 to 2, 10 of each and 11", () -> {
             RubberHall x = Check.hall(MAN + "sitting far1;sitting far2;line felt;");
-            Check.sheets(x, "sheet 0 0 4 shown 5 start 6 slow 7;".repeat(10) + "sheet 0 1 4 shown 5 start 6 slow 7;".repeat(10));
+            Check.sheets(x, "sheet 0 0 4 shown 5 start 6 slow 7;".repeat(10));
+            Check.sheets(x, "sheet 0 1 4 shown 5 start 6 slow 7;".repeat(10));
             int[] sums = {10, 50, 60, 70};
             for (int number = 0; number <= 3; number++) {
                 Check.due("beside(0, 1, " + number + ", 0)", x.beside(0, 1, number, 0), sums[number]);
@@ -595,7 +684,8 @@ public final class EdgesOfPromisesTest {
             Check.illegal("share(5)", () -> x.share(5));
         });
         Check.edge("Promise 25 share: each THING by 0 to 2, each WAY by 3 to 5", () -> {
-            RubberHall x = Check.hall(MAN + "sitting far1;sitting far1stick;sitting far1top;sitting far1turned;sitting far1aside;");
+            RubberHall x = Check.hall(MAN + "sitting far1;sitting far1stick;sitting far1top;"
+                + "sitting far1turned;sitting far1aside;");
             Check.sheets(x, "sheet 0 0 shown 10;sheet 0 1 shown 20;sheet 0 2 shown 40;sheet 0 3 shown 80;sheet 0 4 shown 160;");
             // hands: 10, 80, 160; right way round: 10, 20, 40
             int[] due = {83, 20, 40, 23, 80, 160};
@@ -618,8 +708,8 @@ public final class EdgesOfPromisesTest {
         });
         Check.edge("Promise 32 cold: each what from 0 to 3", () -> {
             RubberHall x = Check.hall(MAN.repeat(3) + "sitting far1;");
-            Check.sheets(x, "sheet 0 0 cold less 2;sheet 1 0 cold less 2;sheet 2 0 cold less 2;sheet 0 0 cold less 2;sheet 1 0 cold 0;"
-                + "sheet 2 0 cold 0;sheet 2 0 cold 9;");
+            Check.sheets(x, "sheet 0 0 cold less 2;sheet 1 0 cold less 2;sheet 2 0 cold less 2;sheet 0 0 cold less 2;"
+                + "sheet 1 0 cold 0;sheet 2 0 cold 0;sheet 2 0 cold 9;");
             int[] due = {7, 4, 3, 1};
             for (int what = 0; what <= 3; what++) {
                 Check.due("cold(" + what + ")", x.cold(what), due[what]);
@@ -669,7 +759,8 @@ public final class EdgesOfPromisesTest {
         none("Promise 30 falls: no such SITTING, by LATE,", NO_SITTING, (x, n) -> x.falls(0, 0, n, 1));
         none("Promise 30 falls: another what", beyond(0, 1), (x, n) -> x.falls(0, 0, 0, n));
         Check.edge("Promise 30 falls: by FAR (0) and by LATE (1), NONE: it doesn't", () -> {
-            RubberHall x = Check.hall("person sight 1 joint 1 touch 1 leans 500;law odds two 1000;law spans;sitting far 0;sitting far 1;");
+            RubberHall x = Check.hall("person sight 1 joint 1 touch 1 leans 500;law odds two 1000;law spans;"
+                + "sitting far 0;sitting far 1;");
             Check.due("falls(0, 0, 1, 0)", x.falls(0, 0, 1, 0), 1);
             Check.due("falls(0, 0, 0, 1)", x.falls(0, 0, 0, 1), 10);
             Check.due("falls(0, 0, 1, 1)", x.falls(0, 0, 1, 1), 0);

@@ -58,7 +58,8 @@ public final class EdgesOfSheetsTest {
 
     private static void offs() {
         Check.edge("Term OFF: by the first RULE that holds, of none, one, some, all of four", () -> {
-            RubberHall x = hall(1, 1, "off shown=1 or shown=4;off shown=2 or shown=4;off start=1 or shown=4;off start=2 or shown=4;");
+            RubberHall x = hall(1, 1, "off shown=1 or shown=4;off shown=2 or shown=4;"
+                + "off start=1 or shown=4;off start=2 or shown=4;");
             int[][] due = {{0, 0, -1}, {1, 0, 0}, {2, 0, 1}, {0, 1, 2}, {0, 2, 3}, {1, 1, 0}, {2, 2, 1}, {4, 0, 0}, {3, 3, -1}};
             x.sheet(0, 0);
             for (int[] d : due) {
@@ -185,6 +186,25 @@ public final class EdgesOfSheetsTest {
             for (int i = 0; i < 4; i++) {
                 Check.due("PERSON of " + i, x.value(i, 30), i / 2);
                 Check.due("SITTING of " + i, x.value(i, 31), i % 2);
+            }
+        });
+        Check.edge("Term DRAWN: of PEOPLE and SITTINGS that are unlike", () -> {
+            // what is FORETOLD of LINE 1 (by YES), of SHOWN, START and SLOW (by WISH); less of each DRAW
+            String house = "person sight 1 joint 1 touch 1 leans 0 yes 50 wish 50;"
+                + "person sight 1 joint 1 touch 1 leans 0 yes 67 wish 20;"
+                + "sitting far 100 strokes 100;sitting far 300 strokes 50;law wish;" + lines;
+            int[][] due = {{0, 50, 50, 50}, {0, 150, 50, 25}, {1, 20, 20, 80}, {1, 60, 20, 40}};
+            int[] aside = {1, 20, 10, 5};
+            RubberHall x = Check.hall(house);
+            x.drawn(0, 5);
+            int now = 5;
+            for (int i = 0; i < 4; i++) {
+                now = next(now);
+                for (int j = 0; j < 4; j++) {
+                    now = next(now);
+                    int drawn = due[i][j] + draw(now, 2 * aside[j] + 1) - aside[j];
+                    Check.due("value(" + i + ", " + WHATS[1 + j] + ")", x.value(i, WHATS[1 + j]), drawn);
+                }
             }
         });
         Check.edge("Term DRAWN: without LINES, of 12 LINES", () -> {

@@ -12,13 +12,13 @@ final class Refusal {
     // how many there are of each kind in the object of all refusals; the first number that there isn't
     static final int PEOPLE = 2;
     static final int SITTINGS = 3;
-    static final int LAWS = 2;
+    static final int LAWS = 4;
     static final int LINES = 2;
     static final int SHEETS = 3;
 
     private static final String HOUSE = "person sight 10 joint 20 touch 100 leans 500 yes 30 wish 40;"
         + "person sight 20 joint 10 touch 50 leans 600;sitting far 30 strokes 2;"
-        + "sitting far 60 late 100 turned stick strokes 4;sitting far 30 told;law odds two 1000;law wish;"
+        + "sitting far 60 late 100 turned stick strokes 4;sitting far 30 told;law odds two 1000;law wish;law spans;law odds spread 9;"
         + "line felt;line said;off 900<shown;";
     private static final int[] OF_A_SHEET = {0, 1, 20, 21, 22, 23, 30, 31, 34};
     private static final int FAULT = 3;

@@ -91,10 +91,10 @@ public final class SheetsTest {
     }
 
     private static void drawnFar() {
-        RubberHall x = Check.hall("person sight 1 joint 99 touch 1 leans 500;sitting far 999;law spans spread 99;");
         int most = -1000;
         int least = 1000;
         for (int seed = 0; seed < 200; seed++) {
+            RubberHall x = Check.hall("person sight 1 joint 99 touch 1 leans 500;sitting far 999;law spans spread 99;");
             x.drawn(0, seed * 77777);
             most = Math.max(most, x.value(0, 20));
             least = Math.min(least, x.value(0, 20));
